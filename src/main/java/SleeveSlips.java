@@ -12,21 +12,24 @@ public final class SleeveSlips {
     private static final int MAX_ROOM = 5;
     private static final int MAX_ASKINGS = 8;
     private static final int MAX_HANGS = 8;
+    private static final int MAX_WORK = 3;
+    private static final int MAX_PRICE = 9;
+    private static final int MAX_UNITS = 9;
+    private static final int MAX_WORTH = 99;
     private static final int MAX_DEEDS = 12;
     private static final int LAST_DAY = 9;
     private static final int SORTS = 3;
     private static final int MAX_TENTHS = 10;
+    private static final int MAX_SORT_DAYS = 3;
     private static final int MAX_CHANCE_DAYS = 6;
     private static final int IMAGES = 2;
     private static final int MAX_GREAT = 99;
     private static final int MUCH_WORK = 99;
-    private static final int NOBODY = -1;
+    private static final int ABSENT = -1;
 
     private static final int OPEN = 0, PINNED = 1, KEPT = 2, GONE = 3;
 
-    private final byte[] text;
-    private int length;
-    private final Reader reader;
+    private final Text text;
     private Town told;
     private Town spare;
     private final Now present;
@@ -38,8 +41,7 @@ public final class SleeveSlips {
     private long traced;
 
     public SleeveSlips() {
-        text = new byte[MAX_TEXT];
-        reader = new Reader(text);
+        text = new Text();
         told = new Town();
         spare = new Town();
         present = new Now();
@@ -59,24 +61,21 @@ public final class SleeveSlips {
         if (n < 1 || n > 8) {
             return BAD;
         }
-        if (length + n > MAX_TEXT) {
+        if (text.length + n > MAX_TEXT) {
             return FULL;
         }
-        for (int i = n - 1; i >= 0; i--) {
-            text[length] = (byte) (v >>> (8 * i));
-            length++;
-        }
-        return length;
+        text.append(v, n);
+        return text.length;
     }
 
     public int clear() {
-        int had = length;
-        length = 0;
+        int had = text.length;
+        text.length = 0;
         return had;
     }
 
     public int town() {
-        int items = reader.readAll(length, spare);
+        int items = text.readAll(spare);
         if (items < 0) {
             return items;
         }
@@ -84,9 +83,11 @@ public final class SleeveSlips {
         Town old = told;
         told = spare;
         spare = old;
-        length = 0;
+        text.length = 0;
         present.beginAnew();
-        Arrays.fill(imageKept, false);
+        for (int i = 0; i < IMAGES; i++) {
+            imageKept[i] = false;
+        }
         return items;
     }
 
@@ -238,7 +239,7 @@ public final class SleeveSlips {
         if (j < 0 || j >= SORTS || tenths < 0 || tenths > MAX_TENTHS) {
             return BAD;
         }
-        if (worth < 1 || worth > 99 || days < 1 || days > 3) {
+        if (worth < 1 || worth > MAX_WORTH || days < 1 || days > MAX_SORT_DAYS) {
             return BAD;
         }
         if (chances.allTenths() - chances.tenths[j] + tenths > MAX_TENTHS) {
@@ -360,7 +361,7 @@ public final class SleeveSlips {
             case 1: return told.askings;
             case 2: return told.hangs;
             case 3: return chances.allTenths();
-            case 4: return length;
+            case 4: return text.length;
             default: return BAD;
         }
     }
@@ -376,7 +377,7 @@ public final class SleeveSlips {
     /** Of the people who are not in the bits of asked, the one with the least price, the least number first. */
     private int cheapestBut(int asked) {
         int best = 0;
-        int bestPrice = Integer.MAX_VALUE;
+        int bestPrice = MAX_PRICE + 1;
         for (int p = 0; p < told.people; p++) {
             if ((asked >> p & 1) == 0 && told.price[p] < bestPrice) {
                 best = p;
@@ -476,13 +477,14 @@ public final class SleeveSlips {
         }
     }
 
-    /** Reads a text token by token into a town. */
-    private static final class Reader {
+    /** The bytes that were typed; they are read token by token into a town. */
+    private static final class Text {
         private static final int END = 0, SEMICOLON = 1, NUMBER = 2, WORD = 3, WRONG = 4;
         private static final int MAX_NUMBER = 99;
 
-        private final byte[] bytes;
-        private int end;
+        private final byte[] bytes = new byte[MAX_TEXT];
+        int length;
+        /** Where the next token is looked for. */
         private int place;
         /** Where the latest token begins: it is the fault, if that token can't stand there. */
         private int start;
@@ -490,13 +492,16 @@ public final class SleeveSlips {
         private int value;
         private final int[] numbers = new int[5];
 
-        Reader(byte[] bytes) {
-            this.bytes = bytes;
+        /** The lowest n bytes, for which there is place. */
+        void append(long v, int n) {
+            for (int i = n - 1; i >= 0; i--) {
+                bytes[length] = (byte) (v >>> (8 * i));
+                length++;
+            }
         }
 
         /** How many items there are, or -10 less the fault. */
-        int readAll(int howMany, Town into) {
-            end = Math.min(howMany, bytes.length);
+        int readAll(Town into) {
             place = 0;
             into.forgetAll();
             for (int items = 0; items <= MAX_TEXT; items++) {
@@ -518,7 +523,7 @@ public final class SleeveSlips {
             if (into.people >= MAX_PEOPLE) {
                 return false;
             }
-            if (!isNumber(0, 1, MAX_ROOM) || !isNumber(1, 1, 3) || !isNumber(2, 0, 9) || !isSemicolon()) {
+            if (!isNumber(0, 1, MAX_ROOM) || !isNumber(1, 1, MAX_WORK) || !isNumber(2, 0, MAX_PRICE) || !isSemicolon()) {
                 return false;
             }
             into.addPerson(numbers);
@@ -529,10 +534,10 @@ public final class SleeveSlips {
             if (into.askings >= MAX_ASKINGS) {
                 return false;
             }
-            if (!isNumber(0, 0, into.people - 1) || !isNumber(1, 0, LAST_DAY) || !isNumber(2, 1, 9)) {
+            if (!isNumber(0, 0, into.people - 1) || !isNumber(1, 0, LAST_DAY) || !isNumber(2, 1, MAX_UNITS)) {
                 return false;
             }
-            if (!isNumber(3, 1, 99) || !isNumber(4, numbers[1], LAST_DAY) || !isSemicolon()) {
+            if (!isNumber(3, 1, MAX_WORTH) || !isNumber(4, numbers[1], LAST_DAY) || !isSemicolon()) {
                 return false;
             }
             into.addAsking(numbers);
@@ -569,11 +574,11 @@ public final class SleeveSlips {
         }
 
         private void readToken() {
-            while (place < end && bytes[place] == ' ') {
+            while (place < length && bytes[place] == ' ') {
                 place++;
             }
             start = place;
-            if (place >= end) {
+            if (place >= length) {
                 token = END;
             } else if (bytes[place] == ';') {
                 place++;
@@ -587,7 +592,7 @@ public final class SleeveSlips {
 
         private void readDigits() {
             value = 0;
-            while (place < end && isDigit(bytes[place])) {
+            while (place < length && isDigit(bytes[place])) {
                 // Held just above the most that a number may be, for a long row of digits would wrap around.
                 value = Math.min(value * 10 + bytes[place] - '0', MAX_NUMBER + 1);
                 place++;
@@ -597,7 +602,7 @@ public final class SleeveSlips {
         }
 
         private void readLetters() {
-            while (place < end && isLetter(bytes[place])) {
+            while (place < length && isLetter(bytes[place])) {
                 place++;
             }
             token = place > start ? WORD : WRONG;
@@ -636,7 +641,7 @@ public final class SleeveSlips {
         final int[] became = new int[MAX_ASKINGS];
         /** 0 for what is no slip. */
         final int[] left = new int[MAX_ASKINGS];
-        /** NOBODY for what is no slip. */
+        /** ABSENT for what is no slip. */
         final int[] sleeve = new int[MAX_ASKINGS];
         final int[] slipCount = new int[MAX_PEOPLE];
         private final int[] slips = new int[MAX_PEOPLE * MAX_ROOM];
@@ -644,7 +649,7 @@ public final class SleeveSlips {
         private final int[] deedRows = new int[MAX_DEEDS * DEED_SIZE];
 
         Now() {
-            Arrays.fill(sleeve, NOBODY);
+            Arrays.fill(sleeve, ABSENT);
         }
 
         void beginAnew() {
@@ -654,7 +659,7 @@ public final class SleeveSlips {
             deeds = 0;
             Arrays.fill(became, OPEN);
             Arrays.fill(left, 0);
-            Arrays.fill(sleeve, NOBODY);
+            Arrays.fill(sleeve, ABSENT);
             Arrays.fill(slipCount, 0);
         }
 
@@ -712,7 +717,7 @@ public final class SleeveSlips {
                 slips[base + i] = slips[base + i + 1];
             }
             became[a] = becomes;
-            sleeve[a] = NOBODY;
+            sleeve[a] = ABSENT;
             left[a] = 0;
         }
 
@@ -749,7 +754,7 @@ public final class SleeveSlips {
             if (became[a] == PINNED) {
                 unpin(a, OPEN);
             }
-            if (p != NOBODY) {
+            if (p != ABSENT) {
                 pin(a, p, deedRows[row + DEED_PLACE], deedRows[row + DEED_LEFT]);
             }
             lost = deedRows[row + DEED_LOST];
@@ -778,7 +783,7 @@ public final class SleeveSlips {
             int kept = 0;
             for (int unit = 0; unit < town.work[p]; unit++) {
                 int a = firstToWorkOn(town, p);
-                if (a == NOBODY) {
+                if (a == ABSENT) {
                     return kept;
                 }
                 left[a]--;
@@ -799,7 +804,7 @@ public final class SleeveSlips {
                     return a;
                 }
             }
-            return NOBODY;
+            return ABSENT;
         }
 
         private int allKept(Town town) {
@@ -900,7 +905,7 @@ public final class SleeveSlips {
 
         private static int soonestDue(Town town, int held) {
             int best = 0;
-            int bestDue = Integer.MAX_VALUE;
+            int bestDue = LAST_DAY + 1;
             for (int a = 0; a < town.askings; a++) {
                 if ((held >> a & 1) != 0 && town.due[a] < bestDue) {
                     best = a;
@@ -932,7 +937,7 @@ public final class SleeveSlips {
         private final int[] worth = new int[SORTS];
         private final int[] days = new int[SORTS];
         final boolean[] known = new boolean[SORTS];
-        /** By how many days are left, then by state: the mean, times 10 to the power of these days. */
+        /** By how many days are left, then by state: the mean, times 10 to the power of these days; for none it stays 0. */
         private final long[][] means = new long[MAX_CHANCE_DAYS + 1][STATES];
         long upper;
         long lower;
@@ -953,7 +958,6 @@ public final class SleeveSlips {
         }
 
         void fillMeans(int n, int places) {
-            Arrays.fill(means[0], 0L);
             for (int d = 1; d <= n; d++) {
                 for (int state = 0; state < STATES; state++) {
                     means[d][state] = meanOf(d, state, places);
@@ -1029,7 +1033,7 @@ public final class SleeveSlips {
             int placed = 0;
             for (int turn = 0; turn < town.askings; turn++) {
                 int a = firstFree(town, gone);
-                if (a == NOBODY) {
+                if (a == ABSENT) {
                     break;
                 }
                 row[placed] = a;
@@ -1045,7 +1049,7 @@ public final class SleeveSlips {
                     return a;
                 }
             }
-            return NOBODY;
+            return ABSENT;
         }
 
         int smallestSetOff(Town town) {

@@ -180,6 +180,14 @@ public final class PromisesTest {
         due("hangs", x.count(2), 1);
         due("a room", x.person(0, 0), 4);
         due("a worth", x.asking(0, 3), 42);
+        // What was typed ahead of clear() is none of the text.
+        SleeveSlips rest = new SleeveSlips();
+        enter(rest, "person 1 1 12");
+        rest.clear();
+        enter(rest, "person 1 1 1");
+        due("a rest of an older text", rest.town(), -22);
+        enter(rest, ";");
+        due("ended", rest.town(), 1);
         SleeveSlips twice = told("person 1 1 1;ask 0 0 1 1 0;ask 0 0 1 1 0;hangs 0 1;hangs 0 1;");
         due("told again: once more", twice.count(2), 2);
     }
@@ -191,6 +199,11 @@ public final class PromisesTest {
         faults("Person 1 1 1;", 0);
         faults("persons 1 1 1;", 0);
         faults("pers", 0);
+        faults("personz 1 1 1;", 0);
+        faults("aask 0 0 1 1 0;", 0);
+        faults("qerson 1 1 1;", 0);
+        faults("persom 1 1 1;", 0);
+        faults("person 1 1 1;hangz", 13);
         faults("p", 0);
         faults("\t", 0);
         faults("\u0000", 0);
@@ -375,6 +388,17 @@ public final class PromisesTest {
         x.letOff(0);
         due("the others move up", x.slip(0, 1), 1);
         due("one less", x.slip(0, 2), NOT_SO_MANY);
+        SleeveSlips last = told("person 1 1 0;".repeat(3) + "person 5 1 0;" + "ask 3 0 9 1 9;".repeat(5));
+        for (int a = 0; a < 5; a++) {
+            due("the last sleeve", last.promise(a), a + 1);
+        }
+        due("the last place of all", last.slip(3, 4), 4);
+        last.letOff(0);
+        due("moved up", last.slip(3, 3), 4);
+        last.undo();
+        due("moved down", last.slip(3, 4), 4);
+        last.letOff(4);
+        due("the last one gone", last.slip(3, 4), NOT_SO_MANY);
     }
 
     private static void promise8Promise() {
@@ -619,6 +643,8 @@ public final class PromisesTest {
         for (int what : new int[] {-1, 2, LOW, HIGH}) {
             due("take(0, " + what + ")", x.take(0, what), BAD);
         }
+        SleeveSlips end = told("person 1 1 0;ask 0 8 2 5 9;ask 0 9 1 6 9;ask 0 9 2 99 9;");
+        due("on the last day", end.take(0, 1), 2);
         passDays(x, 9);
         due("all is over", x.take(0, 0), 0);
     }
@@ -803,6 +829,10 @@ public final class PromisesTest {
         due("too much: who", x.great(8, 0, 1), NONE);
         due("in ten days", x.great(70, 9, 0), 370);
         due("in ten days, one more", x.great(71, 9, 0), NONE);
+        SleeveSlips wide = told("person 1 3 2;".repeat(4));
+        due("the most units", wide.great(99, 9, 0), 198);
+        due("the most units: who", wide.great(99, 9, 1), 15);
+        due("beyond the most", wide.great(100, 9, 1), BAD);
         x.promise(0);
         due("work to be done first", x.great(1, 3, 0), 5);
         due("work to be done first: who", x.great(1, 3, 1), 1);
