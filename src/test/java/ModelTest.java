@@ -153,9 +153,9 @@ public final class ModelTest {
                 case 14: { int w = number(4); check("now(" + w + ")", real.now(w), model.now(w)); break; }
                 case 15: if (upTo(3) == 0) check("take(" + p + ", " + two + ")", real.take(p, two), model.take(p, two)); break;
                 case 16: if (upTo(3) == 0) check("bound(" + p + ", " + two + ")", real.bound(p, two), model.bound(p, two)); break;
-                case 17: { int j = number(2), t = number(5), w = number(99), d = number(3); check("sort(" + j + ", " + t + ", " + w + ", " + d + ")", real.sort(j, t, w, d), model.sort(j, t, w, d)); break; }
+                case 17: { int j = number(2), t = number(random.nextBoolean() ? 10 : 4), w = number(random.nextBoolean() ? 99 : 3), d = number(3); check("sort(" + j + ", " + t + ", " + w + ", " + d + ")", real.sort(j, t, w, d), model.sort(j, t, w, d)); break; }
                 case 18: { int n = number(random.nextInt(3) == 0 ? 6 : 4); check("expected(" + p + ", " + n + ", " + two + ")", real.expected(p, n, two), model.expected(p, n, two)); break; }
-                case 19: { int j = number(2), n = number(random.nextInt(3) == 0 ? 6 : 4), f = number(3); check("wise(" + j + ", " + n + ", " + f + ")", real.wise(j, n, f), model.wise(j, n, f)); break; }
+                case 19: { int j = number(2), n = number(6), f = number(5); check("wise(" + j + ", " + n + ", " + f + ")", real.wise(j, n, f), model.wise(j, n, f)); break; }
                 case 20: check("ring()", real.ring(), model.ring()); break;
                 case 21: check("order(" + a + ")", real.order(a), model.order(a)); break;
                 case 22: if (upTo(3) == 0) check("fewest(" + two + ")", real.fewest(two), model.fewest(two)); break;
